@@ -33,9 +33,6 @@ public final class ExactSimplex {
         if (!isSpan(low, high)) {
             return OUTSIDE;
         }
-        if (problem.names >= MOST_NAMES) {
-            return NO_ROOM;
-        }
         forgetAnswers();
         return problem.addName(low, high);
     }
@@ -69,9 +66,6 @@ public final class ExactSimplex {
     public int row(int sense, int right) {
         if (sense < AT_MOST || sense > AT_LEAST || !isWithin(right, RIGHT_BOUND)) {
             return OUTSIDE;
-        }
-        if (problem.rows >= MOST_ROWS) {
-            return NO_ROOM;
         }
         forgetAnswers();
         return problem.addRow(sense, right);
@@ -518,7 +512,8 @@ public final class ExactSimplex {
      *
      * Variables 0, 1, .. are the names, counted from their low ends, the others are what rows have to spare; none
      * may fall below 0. Every entry is a determinant of at most six lines of factors and rights. With the
-     * document's bounds these stay below 2^37, those without rights below 2^22, so the sum of two products fits into a long.
+     * document's bounds these stay below 2^37, those without rights below 2^22, so the sum of two products fits
+     * into a long.
      */
     private static final class Dictionary {
         // A span's high end and two sides of each row.
@@ -571,7 +566,7 @@ public final class ExactSimplex {
             return 0;
         }
 
-        /** Goes to a point from the beginning, by Bland's rule for the dual with nothing to pay; whether there is one. */
+        /** Goes to a point, if there is one, by Bland's rule for the dual: with no cost all columns are equal. */
         boolean findPoint() {
             for (int count = 0; count < MOST_PIVOTS; count++) {
                 int r = brokenLine();
@@ -754,29 +749,16 @@ public final class ExactSimplex {
         }
 
         boolean hasPoint() {
-            if (!sought) {
-                seek();
-                sought = true;
+            if (sought) {
+                return found;
             }
-            return found;
-        }
-
-        int leastCost() {
-            return bestCost;
-        }
-
-        int firstBestOf(int name) {
-            return firstBest[name];
-        }
-
-        private void seek() {
             found = false;
+            sought = true;
             weighOthers();
-            int names = problem.names;
             int depth = 0;
             openName(depth);
             for (int step = 0; step < MOST_STEPS && depth >= 0; step++) {
-                if (depth >= names) {
+                if (depth >= problem.names) {
                     takePoint();
                     depth--;
                 } else if (point[depth] >= ends[depth]) {
@@ -790,6 +772,15 @@ public final class ExactSimplex {
                     }
                 }
             }
+            return found;
+        }
+
+        int leastCost() {
+            return bestCost;
+        }
+
+        int firstBestOf(int name) {
+            return firstBest[name];
         }
 
         private void weighOthers() {

@@ -122,6 +122,11 @@ public final class PromisesTest {
         due("factor", x.factor(0, 0, 2), 1);
         dueFar(x, 0, 0, 2, 1);
         dueLeast(x, 0, 1);
+        due("whole()", x.whole(), 0);
+        due("name after answers", x.name(3, 5), 1);
+        dueValue(x, 1, 3, 1);
+        dueFar(x, 1, 1, 5, 1);
+        due("wholeValue(1)", x.wholeValue(1), 3);
     }
 
     private static void promise3Span() {
