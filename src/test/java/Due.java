@@ -1,18 +1,19 @@
 /** Counts and prints the answers that are not the ones that are due. */
 final class Due {
-    private final String title;
+    private String sentence = "";
     private int checked;
     private int wrong;
 
-    Due(String title) {
-        this.title = title;
+    /** Says which words of the document the next answers are about. */
+    void about(String words) {
+        sentence = words + ": ";
     }
 
     void equal(String call, long got, long want) {
         checked++;
         if (got != want) {
             wrong++;
-            System.out.println(title + ": " + call + " answered " + got + ", due is " + want);
+            System.out.println(sentence + call + " answered " + got + ", due is " + want);
         }
     }
 
@@ -21,7 +22,7 @@ final class Due {
     }
 
     void finish() {
-        System.out.println(title + ": " + checked + " answers, " + wrong + " wrong");
+        System.out.println(checked + " answers, " + wrong + " wrong");
         if (wrong > 0) {
             System.exit(1);
         }

@@ -14,7 +14,7 @@ public final class FaceTest {
         "long far(int,int,int)", "long least(int)", "long reach(int,int,int)", "long value(int,int)"};
 
     public static void main(String[] args) {
-        Due due = new Due("face");
+        Due due = new Due();
         Set<String> seen = new TreeSet<>();
         Set<String> publicNames = new TreeSet<>();
         for (Method method : ExactSimplex.class.getDeclaredMethods()) {

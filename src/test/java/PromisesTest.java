@@ -1,9 +1,5 @@
 /** Each promise of the document by hand: ordinary calls, the edges that it names, and wrong calls. */
-public final class PromisesTest {
-    private static final Due DUE = new Due("promises");
-    private static final int MIN = Integer.MIN_VALUE;
-    private static final int MAX = Integer.MAX_VALUE;
-
+public final class PromisesTest extends Checks {
     public static void main(String[] args) {
         promise1New();
         promise2Name();
@@ -31,60 +27,7 @@ public final class PromisesTest {
         promise19IsWhole();
         promise20Told();
         greatNumbers();
-        DUE.finish();
-    }
-
-    private static void due(String call, long got, long want) {
-        DUE.equal(call, got, want);
-    }
-
-    /** An object with these spans: low, high, low, high, .. */
-    private static ExactSimplex withSpans(int... ends) {
-        ExactSimplex x = new ExactSimplex();
-        for (int k = 0; k < ends.length; k += 2) {
-            due("name", x.name(ends[k], ends[k + 1]), k / 2);
-        }
-        return x;
-    }
-
-    private static int addRow(ExactSimplex x, int sense, int right, int... factors) {
-        int row = x.row(sense, right);
-        for (int name = 0; name < factors.length; name++) {
-            due("factor of a new row", x.factor(row, name, factors[name]), 1);
-        }
-        return row;
-    }
-
-    private static void costs(ExactSimplex x, int... costs) {
-        for (int name = 0; name < costs.length; name++) {
-            x.cost(name, costs[name]);
-        }
-    }
-
-    private static void dueLeast(ExactSimplex x, long above, long under) {
-        due("least(0)", x.least(0), above);
-        due("least(1)", x.least(1), under);
-    }
-
-    private static void dueValue(ExactSimplex x, int name, long above, long under) {
-        due("value(" + name + ", 0)", x.value(name, 0), above);
-        due("value(" + name + ", 1)", x.value(name, 1), under);
-    }
-
-    private static void dueReach(ExactSimplex x, int name, int side, long above, long under) {
-        due("reach(" + name + ", " + side + ", 0)", x.reach(name, side, 0), above);
-        due("reach(" + name + ", " + side + ", 1)", x.reach(name, side, 1), under);
-    }
-
-    private static void dueFar(ExactSimplex x, int name, int side, long above, long under) {
-        due("far(" + name + ", " + side + ", 0)", x.far(name, side, 0), above);
-        due("far(" + name + ", " + side + ", 1)", x.far(name, side, 1), under);
-    }
-
-    private static void dueTold(ExactSimplex x, int names, int rows, int allRows) {
-        due("told(0)", x.told(0), names);
-        due("told(1)", x.told(1), rows);
-        due("told(2)", x.told(2), allRows);
+        finish();
     }
 
     private static void promise1New() {

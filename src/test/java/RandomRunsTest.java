@@ -21,7 +21,7 @@ public final class RandomRunsTest {
     public static void main(String[] args) {
         int runs = args.length > 0 ? Integer.parseInt(args[0]) : 300;
         long seed = args.length > 1 ? Long.parseLong(args[1]) : 1;
-        Due due = new Due("random runs");
+        Due due = new Due();
         for (int run = 0; run < runs && !due.hasWrong(); run++) {
             new RandomRunsTest(due, seed * 1000003 + run).go(run);
         }
