@@ -301,7 +301,8 @@ public final class EdgesTest extends Checks {
 
     private static void numbersBeyondAnInt() {
         about("A fraction is told in lowest terms: long");
-        int[][] factors = {{7, -7, -8, 9, 9}, {-7, 7, -9, -8, 7}, {8, 7, -7, 9, -8}, {7, 9, 9, -9, 9}, {-9, 8, 7, 7, 8}};
+        int[][] factors = {{7, -7, -8, 9, 9}, {-7, 7, -9, -8, 7}, {8, 7, -7, 9, -8}, {7, 9, 9, -9, 9},
+                {-9, 8, 7, 7, 8}};
         int[] senses = {0, 1, 2, 2, 1};
         int[] rights = {177, 766, -853, -533, -598};
         long[] values = {-52613351, -75634796, -67026840, -70471567, 22933235};
@@ -617,7 +618,8 @@ public final class EdgesTest extends Checks {
         about("more than 20000, also where the count is more than an int holds");
         // 2 to the 35th, which an int would take for 0, and 2 to the 31st, which it would take for less than 0.
         int[][] spans = {{1, 100, 1, 100, 1, 100, 1, 100, 1, 100}, {-27, 100, -27, 100, -27, 100, -27, 100, -27, 100},
-                {-27, 100, -27, 100, -27, 100, -27, 100, 0, 7}, {-100, 100, -100, 100, -100, 100, -100, 100, -100, 100}};
+                {-27, 100, -27, 100, -27, 100, -27, 100, 0, 7},
+                {-100, 100, -100, 100, -100, 100, -100, 100, -100, 100}};
         for (int[] ends : spans) {
             ExactSimplex x = withSpans(ends);
             due("whole()", x.whole(), -4);

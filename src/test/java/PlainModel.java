@@ -420,7 +420,8 @@ final class PlainModel {
                 }
                 long f = m[i][k];
                 for (int j = 0; j <= n; j++) {
-                    m[i][j] = Math.subtractExact(Math.multiplyExact(m[k][k], m[i][j]), Math.multiplyExact(f, m[k][j])) / last;
+                    m[i][j] = Math.subtractExact(Math.multiplyExact(m[k][k], m[i][j]),
+                            Math.multiplyExact(f, m[k][j])) / last;
                 }
             }
             last = m[k][k];

@@ -254,7 +254,8 @@ public final class PromisesTest extends Checks {
     }
 
     private static void promise10RunWithoutNames() {
-        int[][] cases = {{0, 0, 1}, {0, 1, 1}, {0, -1, 0}, {1, 0, 1}, {1, 1, 0}, {1, -1, 0}, {2, 0, 1}, {2, -1, 1}, {2, 1, 0}};
+        int[][] cases = {{0, 0, 1}, {0, 1, 1}, {0, -1, 0}, {1, 0, 1}, {1, 1, 0}, {1, -1, 0},
+                {2, 0, 1}, {2, -1, 1}, {2, 1, 0}};
         for (int[] c : cases) {
             ExactSimplex x = new ExactSimplex();
             x.row(c[0], c[1]);

@@ -194,7 +194,8 @@ public final class RandomRunsTest {
     }
 
     private int odd() {
-        int[] list = {Integer.MIN_VALUE, Integer.MAX_VALUE, -1, 0, 1, 2, 3, 5, 8, 9, 10, 99, 100, 101, 1000, 1001, -100, -101};
+        int[] list = {Integer.MIN_VALUE, Integer.MAX_VALUE, -1, 0, 1, 2, 3, 5, 8, 9, 10, 99, 100, 101, 1000, 1001,
+                -100, -101};
         return list[random.nextInt(list.length)];
     }
 

@@ -97,6 +97,15 @@ public final class RefusalsTest extends Checks {
                     x.right(6, -1000);
                     x.factor(6, 0, 0);
                 }),
+                new State("cleared", 0, 0, -1, true, true, false, x -> {
+                    build(x, 5, 8, 7, 2);
+                    x.clear();
+                }),
+                new State("cleared and built again", 2, 3, 0, true, true, false, x -> {
+                    build(x, 5, 8, 7, 60);
+                    x.clear();
+                    build(x, 2, 3, 0, 4);
+                }),
                 new State("all places taken", 5, 8, 7, true, true, false, x -> build(x, 5, 8, 7, 2)),
                 new State("all places taken and no point", 5, 8, -1, false, false, true, x -> {
                     build(x, 5, 8, -1, 60);
