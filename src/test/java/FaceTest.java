@@ -37,7 +37,7 @@ public final class FaceTest {
         due.finish();
     }
 
-    private static String describe(Method method) {
+    static String describe(Method method) {
         StringBuilder text = new StringBuilder(method.getReturnType() + " " + method.getName() + "(");
         for (int k = 0; k < method.getParameterCount(); k++) {
             text.append(k == 0 ? "" : ",").append(method.getParameterTypes()[k]);
